@@ -663,6 +663,21 @@ public final class CoinLand {
             return was;
         }
 
+        /** What the numbers of a row, from a column on, come to, each so often. */
+        int sum(int row, int column, int[] times) {
+            if (!isInside(row, column)) {
+                return 0;
+            }
+            int sum = 0;
+            int cell = row * width + column;
+            int length = Math.min(times.length, width - column);
+            for (int i = 0; i < length && cell >= 0 && cell < cells.length; i++) {
+                sum += cells[cell] * times[i];
+                cell++;
+            }
+            return sum;
+        }
+
         private boolean isInside(int row, int column) {
             return row >= 0 && row < rows && column >= 0 && column < width;
         }
@@ -793,7 +808,7 @@ public final class CoinLand {
         }
     }
 
-    /** One CLAUSE; its code is the signs of its E, each TEST packed into one number. */
+    /** One CLAUSE; its code is the signs of its E but &, each TEST packed into one number. */
     private static final class Clause {
         private final int word;
         private final int n;
@@ -824,7 +839,7 @@ public final class CoinLand {
                 } else if (sign == '|') {
                     some |= all & 1;
                     all |= 1;
-                } else if (sign != '&') {
+                } else {
                     int value = isSo(sign, facts) ? 1 : 0;
                     if (sign == ')') {
                         value = (some | all) & 1;
@@ -963,11 +978,9 @@ public final class CoinLand {
                 }
                 closeTurns();
                 takeClosing();
-                if (take('&')) {
-                    emit('&');
-                } else if (take('|')) {
+                if (take('|')) {
                     emit('|');
-                } else {
+                } else if (!take('&')) {
                     return open == 0;
                 }
             }
@@ -1185,11 +1198,7 @@ public final class CoinLand {
 
         /** By how much what a BUY tells is worth more than its price. */
         private int surplus(int buy) {
-            int surplus = -world.buys.get(buy, 0);
-            for (int coin = 0; coin < worths.length; coin++) {
-                surplus += worths[coin] * world.buys.get(buy, 1 + coin);
-            }
-            return surplus;
+            return world.buys.sum(buy, 1, worths) - world.buys.get(buy, 0);
         }
 
         /** How many BUYS are SO ahead of the first that is not. */
@@ -1439,7 +1448,7 @@ public final class CoinLand {
 
         /** Whether the row at hand pays each of 1 to n (30 at most): bit p is set, if p can be paid. */
         private boolean paysUpTo(int n) {
-            long wanted = (1L << n + 1) - 1;
+            long wanted = (1L << (n + 1)) - 1;
             long payable = 1;
             for (int coin = 0; coin < worths.length; coin++) {
                 // A COIN worth more than n pays none of them, and would shift by too much.

@@ -190,6 +190,13 @@ public final class ActsAndImageTest {
             due.is("its LANDS go on", Due.landOf(x, i == 0 ? "" : "top 1"), i + 1);
         }
         due.is("its LANDS go on", x.land(), CoinLand.FULL);
+        x = new CoinLand();
+        x.image();
+        x.coin(6, 1, 2, 3);
+        x.row(0, 0, 9);
+        x.undo();
+        x.coin(6, 1, 2, 3);
+        due.is("a new ROW is 0 at first", x.of(0, 4), 2);
     }
 
     private static int[] asked(CoinLand x) {

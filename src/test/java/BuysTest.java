@@ -45,6 +45,12 @@ public final class BuysTest {
         due.is("none then", x.buy(-1, 99, -99, 99, 99), 0);
         due.is("count(3)", x.count(3), 0);
         due.is("anew", x.buy(5, 1, 0, 0, 0), 1);
+        x = with(0, 1);
+        due.is("of one alone", x.buy(1, 1, 0, 0, 0), 1);
+        due.is("b, not there", x.buy(1, 0, 1, 0, 0), CoinLand.BAD);
+        x = with(0, 1, 0, 1, 0, 1);
+        due.is("of three", x.buy(1, 1, 1, -1, 0), 1);
+        due.is("d, not there", x.buy(1, 1, 1, -1, 1), CoinLand.BAD);
         x = with(0, 1, 0, 1, 0, 1, 0, 1);
         due.is("of all four", x.buy(8, 4, -4, 4, -4), 1);
         due.is("c", x.buy(8, 0, 0, 5, 0), CoinLand.BAD);
@@ -179,6 +185,10 @@ public final class BuysTest {
         x.buy(1, 0, 0, 1, 0);
         due.is("of one WORTH, not of one BASE", x.alike(0, 2), 1);
         due.is("two BASES are left", x.left(), 2);
+        Due.landOf(x, "top 1");
+        due.is("one is left", x.left(), 1);
+        due.is("alike in the one that is left", x.alike(0, 2), 1);
+        Due.landOf(x, "top 9");
         x.buy(2, 1, 0, 0, 0);
         due.is("alike, none", x.alike(0, 1), 0);
         due.is("alike(0, 0)", x.alike(0, 0), CoinLand.BAD);

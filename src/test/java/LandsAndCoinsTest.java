@@ -59,7 +59,7 @@ public final class LandsAndCoinsTest {
             {"top 1; top 1", 6}, {"top 1,", 5}, {"top -1", 4}, {"c", 1}, {"chea", 4}, {"cheat 1 c=1", 7},
             {"coin 1", 1}, {"dear", 4}, {"dear 1", 6}, {"dear 1;", 6}, {"dear 1 ", 7}, {"dear 01 c=1", 6},
             {"dear 100 c=1", 7}, {"dear 1  c=1", 7}, {"dear 1 x=1", 7}, {"dear 1 c", 8}, {"dear 1 c?1", 8},
-            {"dear 1 c=", 9}, {"dear 1 c=x", 9}, {"dear 1 c=01", 10}, {"dear 1 c=123", 11}, {"dear 1 c==1", 9},
+            {"dear 1 c=", 9}, {"dear 1 c=x", 9}, {"dear 1 c=&c=1", 9}, {"dear 1 k&c=1", 8}, {"dear 1 &c=1", 7}, {"dear 1 c=01", 10}, {"dear 1 c=123", 11}, {"dear 1 c==1", 9},
             {"dear 1 c=1 ", 10}, {"dear 1 c=1&", 11}, {"dear 1 c=1|", 11}, {"dear 1 c=1&&", 11}, {"dear 1 c=1&|", 11},
             {"dear 1 c=1)", 10}, {"dear 1 (c=1", 11}, {"dear 1 (c=1;", 11}, {"dear 1 (c=1))", 12}, {"dear 1 ()", 8},
             {"dear 1 !", 8}, {"dear 1 !)", 8}, {"dear 1 c=1!", 10}, {"dear 1 c=1(", 10}, {"dear 1 !c=1)", 11},
@@ -94,6 +94,9 @@ public final class LandsAndCoinsTest {
         due.is("a ! ends with its bracket", Due.fed("dear 1 !(c=1)&(((((c=2)))))").land(), 0);
         due.is("a ! inside a bracket that is open", Due.fed("dear 1 !(c=1&!!!!c=2)").land(), -26);
         due.is("all ! end behind a bracket", Due.fed("dear 1 (!!(c=1)&!!(!!c=2))").land(), -30);
+        CoinLand x = new CoinLand();
+        due.is("brackets that stay open", Due.landOf(x, "dear 1 (((c=1"), -23);
+        due.is("the next text is anew", Due.landOf(x, "dear 1 !!!!!c=1"), 0);
         due.is("the next clause is anew", Due.fed("dear 1 !!!!!c=1;mean 1 !!!!!c=1").land(), 0);
     }
 
@@ -121,6 +124,13 @@ public final class LandsAndCoinsTest {
             due.is("land() of '" + text[0] + "'", x.land(), 0);
             due.is("of(0, 4) by '" + text[0] + "'", x.of(0, 4), (Integer) text[1]);
             due.is("of(1, 4) by '" + text[0] + "'", x.of(1, 4), (Integer) text[2]);
+        }
+        for (int kind = 0; kind <= 6; kind++) {
+            CoinLand x = Due.fed("dear 20 k<3;dear 40 k=3;dear 60 k>3;dear 5 k=6|k=0;mean 7 v=0");
+            x.coin(kind, 0, 9, 1);
+            x.land();
+            int[] worths = {27, 22, 21, 42, 60, 61, 67};
+            due.is("of(0, 4) of KIND " + kind, x.of(0, 4), worths[kind]);
         }
         CoinLand x = Due.fed("dear 10 b=7;dear 20 b>8");
         x.coin(0, 1, 4, 3);

@@ -120,6 +120,7 @@ public final class PayingTest {
         due.is("1 to 99", x.never(), -5);
         x.set(0, 1, 8);
         due.is("98 at most", x.never(), 99);
+        due.is("1 to 108", with(1, 9, 9, 9, 9, 2).never(), -5);
         due.is("no change", with(3, 9, 2, 9).never(), 1);
     }
 

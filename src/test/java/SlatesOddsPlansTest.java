@@ -64,6 +64,12 @@ public final class SlatesOddsPlansTest {
         x.slate(8, 0, 40);
         due.is("5, but 8 is no sign of it", x.counts(0), 0);
         x.slate(-1, 0, 0);
+        x.slate(8, 0, 64);
+        due.is("8, but 8 is no sign of it", x.counts(0), 0);
+        x.slate(-1, 0, 0);
+        x.slate(1, 5, 10);
+        due.is("5, but 5 is no sign of it", x.counts(0), 0);
+        x.slate(-1, 0, 0);
         x.slate(0, 19, 19);
         due.is("a sign is less than b", x.counts(1), 20);
     }
@@ -151,6 +157,15 @@ public final class SlatesOddsPlansTest {
         x.coin(0, 0, 9, 0);
         Due.landOf(x, "dear 9 d<9");
         due.is("behind 9 DAYS", x.lasting(0), 9);
+        x = new CoinLand();
+        x.coin(6, 0, 1, 0);
+        x.row(0, 0, 9);
+        x.row(0, 1, 9);
+        x.row(0, 2, 9);
+        Due.landOf(x, "dear 50 d>0&d<9;dear 16 d=9");
+        due.is("behind 99 DAYS", x.lasting(0), 99);
+        Due.landOf(x, "dear 50 d>0&d<9;dear 18 d=9");
+        due.is("not by then", x.lasting(0), -5);
     }
 
     private static void planning() {
@@ -206,6 +221,10 @@ public final class SlatesOddsPlansTest {
         x.plan(8);
         due.is("all", x.made(0), 2);
         due.is("RICH then", x.made(1), 0);
+        x.plan(-1);
+        x.plan(3);
+        due.is("without CHANGE", x.made(0), 0);
+        due.is("all is left", x.made(1), 23);
         x = new CoinLand();
         x.coin(0, 0, 2, 3);
         Due.landOf(x, "dear 3 p=2");
