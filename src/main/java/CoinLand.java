@@ -1559,26 +1559,29 @@ public final class CoinLand {
                 trace[ran] = body;
             }
             ran++;
-            int deeper = depth + 1;
+            return answer(body, x, depth + 1);
+        }
+
+        private int answer(int body, int x, int depth) {
             switch (body) {
                 case 1:
                     return x + number;
                 case 2:
-                    return run(kind, SHOWS, x, deeper) - v;
+                    return run(kind, SHOWS, x, depth) - v;
                 case 3:
-                    return run(kind, PAYS, x, deeper) * 2;
+                    return run(kind, PAYS, x, depth) * 2;
                 case 11:
-                    return run(COIN, SHOWS, x * 3, deeper);
+                    return run(COIN, SHOWS, x * 3, depth);
                 case 21:
-                    return -run(COIN, PAYS, x, deeper);
+                    return -run(COIN, PAYS, x, depth);
                 case 31:
-                    return run(COIN, TELLS, x, deeper) ^ 7;
+                    return run(COIN, TELLS, x, depth) ^ 7;
                 case 41:
-                    return run(ROUND, TELLS, x - 1, deeper) + run(kind, SHOWS, 2, deeper);
+                    return run(ROUND, TELLS, x - 1, depth) + run(kind, SHOWS, 2, depth);
                 case 51:
-                    return run(HOLED, SHOWS, x, deeper) ^ number;
+                    return run(HOLED, SHOWS, x, depth) ^ number;
                 case 61:
-                    return run(WORN, PAYS, x, deeper) + v;
+                    return run(WORN, PAYS, x, depth) + v;
                 default:
                     return 0;
             }
